@@ -94,6 +94,13 @@ public final class DeedsTest {
             y.spring();
         }
         due("many springs", y.now(0), 500);
+        // Beyond 512 calls nothing is promised, but the last spring can't be seen sooner.
+        for (int n = 501; n <= 999; n++) {
+            y.spring();
+        }
+        due("the last spring", y.now(0), 999);
+        due("no spring behind it", y.spring(), RainShelves.STATE);
+        due("still the last spring", y.now(0), 999);
     }
 
     private static void splits() {

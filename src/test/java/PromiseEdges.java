@@ -124,7 +124,25 @@ final class PromiseEdges {
         Check.tell(x, "p1 1 0 0;");
         Check.tell(x, TWO);
         e.due("more pans: nothing of old pours", x.holds(1, 0), 0);
+        nothingOfOldPours();
         houseFault();
+    }
+
+    /** Each of seven pans has a spoon of each; told anew, it has its own alone. */
+    private void nothingOfOldPours() {
+        // The later pan is the older one, so that it pours its own ahead of what came into it.
+        String seven = "p7 9 0 0;p6 9 0 0;p5 9 0 0;p4 9 0 0;p3 9 0 0;p2 9 0 0;p1 9 0 0;";
+        RainShelves x = Check.shelves(seven);
+        for (int a = 0; a < 7; a++) {
+            for (int b = 0; b < 7; b++) x.pours(a, b, 1);
+        }
+        for (int p = 0; p < 7; p++) {
+            for (int of = 0; of < 7; of++) e.due("mixed, " + p + " of " + of, x.holds(p, of), p == of ? 3 : 1);
+        }
+        Check.tell(x, seven);
+        for (int p = 0; p < 7; p++) {
+            for (int of = 0; of < 7; of++) e.due("anew, " + p + " of " + of, x.holds(p, of), p == of ? 9 : 0);
+        }
     }
 
     private void houseFault() {
@@ -468,6 +486,14 @@ final class PromiseEdges {
         RainShelves y = Check.shelves(TWO + "s41;");
         e.due("two", y.shelves(), 2);
         e.due("one may be just full", Check.shelves(TWO + "s30;").shelves(), 2);
+        y.splits(0);
+        e.due("one is split", y.shelves(), 1);
+        y.splits(1);
+        e.due("both are", y.shelves(), 0);
+        y.undo();
+        e.due("one is not", y.shelves(), 1);
+        Check.tell(y, "p1 9 0 0;");
+        e.due("fewer pans", y.shelves(), 1);
         e.of(21, "NONE.");
         RainShelves z = Check.shelves(TWO + "s29;");
         e.due("too much for one", z.shelves(), NONE);
@@ -480,7 +506,11 @@ final class PromiseEdges {
         RainShelves x = Check.shelves(TWO + "p1 0 0 0;p1 59 0 2;p1 60 0 2;s59;");
         e.due("one", x.beside(0), 1);
         e.due("none", x.beside(3), 0);
+        x.splits(1);
+        e.due("none, the other one is split", x.beside(0), 0);
+        e.due("none, there is no other one", Check.shelves("p1 60 0 0;").beside(0), 0);
         e.of(22, "NONE.");
+        e.due("split", x.beside(1), NONE);
         e.due("holds none", x.beside(2), NONE);
         e.due("does not fit", x.beside(4), NONE);
         e.of(22, "BAD.");

@@ -4,6 +4,8 @@ import java.util.Random;
 public final class RandomRunsTest {
     private static final int RUNS = 400;
     private static final int MOST_CALLS = 512;
+    /** No turn begins with fewer calls left: undoAll() makes as many. A text is cut off ahead of the end. */
+    private static final int LONGEST_TURN = 12;
     private static final Check CHECK = new Check("RandomRunsTest");
 
     private final Random random;
@@ -35,7 +37,7 @@ public final class RandomRunsTest {
         if (random.nextInt(8) > 0) {
             tell(goodText());
         }
-        while (calls < MOST_CALLS && CHECK.wrong() == 0) {
+        while (calls <= MOST_CALLS - LONGEST_TURN && CHECK.wrong() == 0) {
             int choice = random.nextInt(100);
             if (choice == 0) {
                 tell(random.nextInt(3) == 0 ? goodText() : badText());
@@ -106,7 +108,7 @@ public final class RandomRunsTest {
     }
 
     private void tell(String text) {
-        for (int i = 0; i < text.length() && calls < MOST_CALLS; i++) {
+        for (int i = 0; i < text.length() && calls < MOST_CALLS - 2; i++) {
             int letter = text.charAt(i);
             due("type(" + letter + ")", x.type(letter), m.type(letter));
         }

@@ -15,7 +15,7 @@ import java.util.regex.Pattern;
  * The words are looked up in the document, and in the end no word of its parts may be without a test.
  */
 final class Edges {
-    static final String PANS = "Terms 1", DEEDS = "Terms 2", QUESTIONS = "Terms 3", KINDS = "Terms 4";
+    static final String FIRST = "What it is", PANS = "Terms 1", DEEDS = "Terms 2", QUESTIONS = "Terms 3", KINDS = "Terms 4";
     static final String REFUSED = "Refused", CONSTANTS = "Constants";
 
     private final Check check = new Check("EdgesTest");
@@ -33,6 +33,7 @@ final class Edges {
 
     private static Map<String, String> parts(String text) {
         Map<String, String> parts = new LinkedHashMap<>();
+        parts.put(FIRST, between(text, "## What it is", "## The public face"));
         parts.put(PANS, between(text, "## Terms", "======== 2"));
         parts.put(DEEDS, between(text, "======== 2", "======== 3"));
         parts.put(QUESTIONS, between(text, "======== 3", "======== 4"));

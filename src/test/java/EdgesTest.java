@@ -5,6 +5,7 @@ import java.nio.file.Path;
 public final class EdgesTest {
     public static void main(String[] args) throws IOException {
         Edges edges = new Edges(Path.of(args.length > 1 ? args[1] : "../shared/DOC.md"));
+        new FirstEdges(edges).run();
         new TextEdges(edges).run();
         new DeedEdges(edges).run();
         new QuestionEdges(edges).run();

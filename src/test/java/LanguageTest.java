@@ -15,22 +15,25 @@ import java.util.regex.Pattern;
 public final class LanguageTest {
     private static final Check CHECK = new Check("LanguageTest");
 
-    private static final String FACE = "int type(int) int clear() int house() int pan(int,int) int holds(int,int)"
-        + " int now(int) int uses(int,int) int pours(int,int,int) int spring() int splits(int) int undo() int lasts(int)"
-        + " int inSprings(int,int) int fire(int,int) int spoil(int) int mix(int,int,int) int levels(int,int,int)"
-        + " int forget() int theft(int) int shelves() int beside(int) int odds(int,int,int) int rate(int,int)"
-        + " int keep(int) int back(int) int count(int) long trace()";
-
     public static void main(String[] args) throws IOException {
-        face();
-        constants();
+        String document = Files.readString(Path.of(args.length > 1 ? args[1] : "../shared/DOC.md"));
+        String source = Files.readString(Path.of(args.length > 0 ? args[0] : "src/main/java/RainShelves.java"));
+        String face = document.substring(document.indexOf("## The public face"), document.indexOf("## Terms"));
+        face(face);
+        constants(face);
+        headings(document, source);
         members();
-        source(Files.readString(Path.of(args.length > 0 ? args[0] : "src/main/java/RainShelves.java")));
+        source(source);
         CHECK.end();
     }
 
-    private static void face() {
-        Set<String> due = new TreeSet<>(List.of(FACE.split("(?<=\\)) ")));
+    private static void face(String face) {
+        Set<String> due = new TreeSet<>();
+        Matcher told = Pattern.compile("public (int|long) (\\w+)\\(([^)]*)\\);").matcher(face);
+        while (told.find()) {
+            due.add(told.group(1) + " " + told.group(2) + "(" + told.group(3).replaceAll("int \\w+", "int").replace(", ", ",") + ")");
+        }
+        CHECK.due("methods that the document's face has", due.size(), 27);
         Set<String> there = new TreeSet<>();
         for (Method m : RainShelves.class.getDeclaredMethods()) {
             if (Modifier.isPrivate(m.getModifiers())) continue;
@@ -39,19 +42,57 @@ public final class LanguageTest {
             there.add(m.getReturnType().getName() + " " + m.getName() + "(" + s + ")");
             CHECK.due(m + " is public and no static one", m.getModifiers(), Modifier.PUBLIC);
         }
-        CHECK.due("the face is " + there + ": as told", there.equals(due) ? 1 : 0, 1);
+        CHECK.due("the face is " + there + ", the document's " + due, there.equals(due) ? 1 : 0, 1);
         CHECK.due("the class", RainShelves.class.getModifiers(), Modifier.PUBLIC | Modifier.FINAL);
         CHECK.due("constructors", RainShelves.class.getDeclaredConstructors().length, 1);
         CHECK.due("public constructors", RainShelves.class.getConstructors().length, 1);
+        CHECK.due("its parameters", RainShelves.class.getConstructors()[0].getParameterCount(), 0);
     }
 
-    private static void constants() {
+    private static void constants(String face) {
         CHECK.due("BAD", RainShelves.BAD, -1);
         CHECK.due("STATE", RainShelves.STATE, -2);
         CHECK.due("FULL", RainShelves.FULL, -3);
         CHECK.due("NONE", RainShelves.NONE, -9);
         CHECK.due("NO", RainShelves.NO, -1000000);
-        CHECK.due("public fields", RainShelves.class.getFields().length, 5);
+        int told = 0;
+        Matcher m = Pattern.compile("(\\w+) = (-?\\d+)").matcher(face);
+        while (m.find()) {
+            told++;
+            CHECK.due("the document's " + m.group(1), constant(m.group(1)), Long.parseLong(m.group(2)));
+        }
+        CHECK.due("public fields", RainShelves.class.getFields().length, told);
+    }
+
+    private static long constant(String name) {
+        try {
+            Field f = RainShelves.class.getField(name);
+            CHECK.due(name + " is a constant", f.getModifiers(), Modifier.PUBLIC | Modifier.STATIC | Modifier.FINAL);
+            return f.getInt(null);
+        } catch (ReflectiveOperationException e) {
+            System.out.println("LanguageTest: " + e);
+            return Long.MIN_VALUE;
+        }
+    }
+
+    /** 'Ahead of the calls .. the interface says': the class has its calls in that order, under those words. */
+    private static void headings(String document, String source) {
+        Matcher ahead = Pattern.compile("Ahead of the calls? ([^:]*) the interface says: (---- .*)\\.\\n").matcher(document);
+        int place = 0, calls = 0;
+        while (ahead.find()) {
+            int heading = source.indexOf("// " + ahead.group(2) + "\n", place);
+            CHECK.due("'" + ahead.group(2) + "' is there", heading >= place ? 1 : 0, 1);
+            place = Math.max(place, heading);
+            Matcher call = Pattern.compile("`(\\w+)`").matcher(ahead.group(1));
+            while (call.find()) {
+                calls++;
+                Matcher head = Pattern.compile("public (int|long) " + call.group(1) + "\\(").matcher(source);
+                boolean found = head.find(place);
+                CHECK.due(call.group(1) + " is under '" + ahead.group(2) + "', in order", found ? 1 : 0, 1);
+                place = found ? head.start() : place;
+            }
+        }
+        CHECK.due("calls under headings", calls, 27);
     }
 
     private static void members() {
@@ -102,8 +143,12 @@ public final class LanguageTest {
         int methods = 0;
         while (m.find()) {
             methods++;
-            int lines = m.group().split("\n").length;
-            CHECK.due("sixty lines at most: " + m.group().split("\n")[0].trim(), lines <= 60 ? 1 : 0, 1);
+            String[] lines = m.group().split("\n");
+            String head = lines[0].trim();
+            CHECK.due("sixty lines at most: " + head, lines.length <= 60 ? 1 : 0, 1);
+            // All runs share one room for objects: only constructors, whose heads have no type, may make any.
+            boolean constructs = head.matches("(public|private) \\w+\\(.*");
+            CHECK.due("makes an object: " + head, !constructs && m.group().matches("(?s).*\\bnew\\b.*") ? 1 : 0, 0);
         }
         CHECK.due("methods were found", methods > 28 ? 1 : 0, 1);
     }
